@@ -31,6 +31,9 @@ public final class PromiseTest {
         overCredits();
         overSums();
         overDeltas();
+        overLegDeltas();
+        overParts();
+        overChargesTogether();
         woulds();
         hedges();
         shares();
@@ -757,6 +760,104 @@ public final class PromiseTest {
         is("another half", x.trade(0, 1, 1, 100, -1), -15);
     }
 
+    /** Trades of a million each, and the rest: a QUANTITY that one call can't bring. */
+    private static void tradeUpTo(LegHedge x, int kind, int expiry, int quantity) {
+        int sign = quantity < 0 ? -1 : 1;
+        int strike = kind == 1 ? 999 : 0;
+        int rest = Math.abs(quantity);
+        for (; rest > 1000000; rest -= 1000000) {
+            x.trade(0, kind, expiry, strike, sign * 1000000);
+        }
+        is("up to " + quantity, x.trade(0, kind, expiry, strike, sign * rest), quantity);
+    }
+
+    private static void overLegDeltas() {
+        LegHedge x = new LegHedge();
+        tradeUpTo(x, 1, 0, 429496729);
+        is("QUANTITY times 5", x.trade(0, 1, 0, 999, 1), -15);
+        is("DELTA", x.risk(0, 4), 0);
+        LegHedge y = new LegHedge();
+        tradeUpTo(y, 0, 0, 214748364);
+        is("DELTAS by EXPIRY", y.trade(0, 1, 0, 0, 1), -15);
+        is("another EXPIRY", y.trade(0, 0, 1, 0, -10), -10);
+        is("DELTAS by EXPIRY, not together", y.trade(0, 1, 0, 0, 1), -15);
+        is("less of it", y.trade(0, 1, 0, 0, -10), -10);
+        is("DELTA of a LEG, not by EXPIRY", y.trade(0, 0, 0, 0, 1), -15);
+        is("DELTA by EXPIRY", y.risk(0, 5), 2147483540);
+        is("DELTA of a LEG", y.legOf(0, 5), 2147483640);
+    }
+
+    private static void overParts() {
+        due.part("OVER: PARTS times PER");
+        LegHedge x = new LegHedge();
+        x.move(10, 0, 100);
+        x.move(-10, 0, 100);
+        x.ground(0, 2, 1000000);
+        for (int e = 0; e < 6; e++) {
+            x.trade(0, 4, e, 100, -4);
+        }
+        is("SCAN of six that have no DELTA", x.risk(0, 0), 120000000);
+        x.trade(1, 0, 0, 0, 1);
+        is("a DELTA of 0", x.offset(0, 1, 9, 9, 0, 100), 0);
+        is("a CALL at the PRICE would make PER 250000000", x.would(0, 1, 0, 100, -1), NO);
+        x.unset(0);
+        is("a CALL at the PRICE", x.trade(0, 1, 0, 100, -1), -1);
+        is("PER", x.risk(0, 3), 250000000);
+        is("9 times PER", x.offset(0, 1, 9, 9, 0, 100), -15);
+        is("9 times PER of b", x.offset(1, 0, 9, 9, 0, 100), -15);
+        is("9 times PER of signs that don't fit", x.offset(0, 1, 9, 9, 1, 100), 0);
+        is("8 times PER", x.offset(0, 1, 8, 9, 0, 100), 1);
+        is("8 times PER of b", x.offset(1, 0, 9, 8, 0, 100), 2);
+        is("k", x.used(1, 0), 0);
+        x.unset(2);
+        x.unset(1);
+        x.unset(0);
+        x.ground(1, 2, 1000000);
+        for (int e = 1; e < 5; e++) {
+            x.trade(1, 4, e, 100, -4);
+        }
+        is("SCAN of 1", x.risk(1, 0), 90000000);
+        is("PER of 1", x.risk(1, 3), 90000000);
+        is("2000000000 and 90000000", x.offset(0, 1, 8, 1, 0, 0), 0);
+        is("2000000000 and 180000000", x.offset(0, 1, 8, 2, 0, 0), -15);
+        is("180000000 and 2000000000", x.offset(1, 0, 2, 8, 0, 0), -15);
+    }
+
+    private static void overChargesTogether() {
+        due.part("OVER: CHARGES of all, SCANS and CHARGES");
+        LegHedge x = new LegHedge();
+        for (int g = 0; g < 5; g++) {
+            x.ground(g, 4, 99);
+        }
+        for (int pair = 0; pair < 10; pair++) {
+            for (int sign = 1; sign >= -1; sign -= 2) {
+                int e = pair % 3 * 2 + (sign < 0 ? 1 : 0);
+                x.trade(pair / 3, 0, e, 0, sign * 1000000);
+                x.trade(pair / 3, 0, e, 0, sign * 1000000);
+                x.trade(pair / 3, 0, e, 0, sign * 169175);
+            }
+        }
+        is("CHARGES of 0", x.risk(0, 1), 3 * 214748325);
+        is("CHARGES", x.told(2), 2147483250);
+        is("one side", x.trade(3, 0, 2, 0, 5), 5);
+        is("CHARGES and 495", x.trade(3, 0, 3, 0, -5), -15);
+        is("CHARGES and 396", x.trade(3, 0, 3, 0, -4), -4);
+        is("CHARGES", x.told(2), 2147483646);
+        x.trade(3, 0, 3, 0, 4);
+        x.trade(3, 0, 2, 0, -5);
+        is("move", x.move(9, 0, 100), 0);
+        is("SCANS", x.told(1), 0);
+        is("SCANS and CHARGES", x.trade(4, 0, 0, 0, -44), -44);
+        is("SCANS and CHARGES", x.trade(4, 0, 0, 0, -1), -15);
+        is("MARGIN", x.told(0), 2147483646);
+        // 36 of CREDITS come behind SCANS and CHARGES: these are OVER all the same
+        x.trade(3, 0, 4, 0, 4);
+        is("offset", x.offset(3, 4, 1, 1, 0, 100), 0);
+        is("CREDITS", x.told(5), 36);
+        is("MARGIN", x.told(0), 2147483610);
+        is("SCANS and CHARGES", x.trade(4, 0, 0, 0, -1), -15);
+    }
+
     private static void woulds() {
         due.part("promise 21");
         LegHedge x = threeGrounds();
@@ -791,6 +892,11 @@ public final class PromiseTest {
         is("hedge(0, 1)", x.hedge(0, 1), -10);
         is("would", x.would(0, 0, 1, 0, -10), 20);
         is("hedge(1, 0)", x.hedge(1, 0), 0);
+        x.trade(0, 0, 0, 0, -9);
+        is("one short of one", x.hedge(0, 0), -1);
+        x.trade(0, 0, 0, 0, -2);
+        is("one long of one", x.hedge(0, 0), 1);
+        x.trade(0, 0, 0, 0, 11);
         x.ground(0, 4, 50);
         is("charges of more than all", x.hedge(0, 1), 0);
         is("count(0)", x.count(0), 1);
@@ -969,6 +1075,20 @@ public final class PromiseTest {
         x.still(1);
         // LEG 2 and MOVE 1 are there no more: nothing goes
         is("ends()", x.ends(), 200);
+        LegHedge y = threeGrounds();
+        y.plan(2, 1);
+        y.trade(1, 0, 0, 0, 10);
+        y.trade(2, 0, 0, 0, 10);
+        is("LEG 1 is there no more, MOVE 1 stays", y.ends(), 100);
+        y.plan(-1, 0);
+        y.plan(3, 1);
+        y.still(1);
+        y.move(-5, 0, 100);
+        is("another MOVE 1", y.ends(), 0);
+        y.still(1);
+        y.move(-5, 0, 100);
+        y.plan(-1, 0);
+        is("ends()", y.ends(), 50);
         planOfPrices();
     }
 
