@@ -2,7 +2,9 @@ import java.util.Random;
 
 /** Runs of calls chosen by a seed, each answer held against the Model's. */
 public final class ModelTest {
-    private static final int RUNS = 120, CALLS = 350;
+    private static final int RUNS = 400;
+    /** An object is used for 512 calls at most: so many by steps (one more of which is 130 at most), the rest for all(). */
+    private static final int BY_STEPS = 330, MOST = 512;
 
     private final Due due;
     private final Random dice;
@@ -10,6 +12,7 @@ public final class ModelTest {
     private final Model y = new Model();
     /** How great the numbers of this run are: what is OVER is met in some runs, seldom in others. */
     private final int mood;
+    private int calls = 0;
 
     private ModelTest(Due due, int seed) {
         this.due = due;
@@ -22,12 +25,22 @@ public final class ModelTest {
         for (int seed = 0; seed < RUNS && !due.anyWrong(); seed++) {
             due.part("seed " + seed);
             ModelTest run = new ModelTest(due, seed);
-            for (int i = 0; i < CALLS && !due.anyWrong(); i++) {
+            for (int i = 0; i < MOST && run.calls < BY_STEPS && !due.anyWrong(); i++) {
                 run.step();
             }
             run.all();
         }
         due.end();
+    }
+
+    private void is(String call, long got, long want) {
+        calls++;
+        due.is(call, got, want);
+    }
+
+    /** Of all that can be asked at the end some is, as long as there are calls left. */
+    private boolean isPicked() {
+        return calls < MOST && dice.nextInt(9) == 0;
     }
 
     private int wild() {
@@ -108,9 +121,9 @@ public final class ModelTest {
             q = dice.nextBoolean() ? (int) -y.legOf(leg, 4) : q;
         }
         String of = "(" + g + ", " + kind + ", " + e + ", " + k + ", " + q + ")";
-        due.is("would" + of, x.would(g, kind, e, k, q), y.would(g, kind, e, k, q));
-        due.is("trade" + of, x.trade(g, kind, e, k, q), y.trade(g, kind, e, k, q));
-        due.is("find" + of, x.find(g, kind, e, k), y.find(g, kind, e, k));
+        is("would" + of, x.would(g, kind, e, k, q), y.would(g, kind, e, k, q));
+        is("trade" + of, x.trade(g, kind, e, k, q), y.trade(g, kind, e, k, q));
+        is("find" + of, x.find(g, kind, e, k), y.find(g, kind, e, k));
     }
 
     private void setting() {
@@ -119,10 +132,10 @@ public final class ModelTest {
             int up = mood == 5 ? of(-12, 12) : of(-99, 99);
             int stir = of(-9, 9);
             int w = mood == 5 ? of(60, 100) : of(1, 100);
-            due.is("move", x.move(up, stir, w), y.move(up, stir, w));
+            is("move", x.move(up, stir, w), y.move(up, stir, w));
         } else if (luck == 4) {
             int m = of(0, 7);
-            due.is("still", x.still(m), y.still(m));
+            is("still", x.still(m), y.still(m));
         } else if (luck < 8) {
             int a = of(0, 4);
             int b = of(0, 4);
@@ -130,18 +143,18 @@ public final class ModelTest {
             int pb = of(1, 9);
             int side = of(0, 1);
             int rate = mood == 5 ? of(50, 100) : of(0, 100);
-            due.is("offset", x.offset(a, b, pa, pb, side, rate), y.offset(a, b, pa, pb, side, rate));
+            is("offset", x.offset(a, b, pa, pb, side, rate), y.offset(a, b, pa, pb, side, rate));
         } else if (luck == 8) {
             int o = of(0, 5);
-            due.is("unset", x.unset(o), y.unset(o));
+            is("unset", x.unset(o), y.unset(o));
         } else {
             int g = of(0, 4);
             int what = of(0, 5);
             int size = mood < 2 ? 50 : mood == 2 ? 20000 : mood == 5 ? 2 : 1000000;
             int[] most = {130, 99, size, mood == 5 ? 15 : 99, 99, 99};
             int v = dice.nextInt(30) == 0 ? wild() : of(0, what >= 0 && what < 6 ? most[what] : 9);
-            due.is("ground", x.ground(g, what, v), y.ground(g, what, v));
-            due.is("groundOf", x.groundOf(g, what), y.groundOf(g, what));
+            is("ground", x.ground(g, what, v), y.ground(g, what, v));
+            is("groundOf", x.groundOf(g, what), y.groundOf(g, what));
         }
     }
 
@@ -150,18 +163,18 @@ public final class ModelTest {
         int move = of(-1, 7);
         int g = of(0, 4);
         int what = of(0, 10);
-        due.is("legOf", x.legOf(leg, what), y.legOf(leg, what));
-        due.is("value", x.value(leg, move), y.value(leg, move));
-        due.is("taken", x.taken(leg, what), y.taken(leg, what));
-        due.is("loss", x.loss(leg, move), y.loss(leg, move));
-        due.is("row", x.row(g, move), y.row(g, move));
-        due.is("moved", x.moved(g, move, what & 1), y.moved(g, move, what & 1));
-        due.is("risk", x.risk(g, what), y.risk(g, what));
-        due.is("share", x.share(g, what & 1), y.share(g, what & 1));
-        due.is("order", x.order(leg), y.order(leg));
-        due.is("used", x.used(leg, what & 1), y.used(leg, what & 1));
+        is("legOf", x.legOf(leg, what), y.legOf(leg, what));
+        is("value", x.value(leg, move), y.value(leg, move));
+        is("taken", x.taken(leg, what), y.taken(leg, what));
+        is("loss", x.loss(leg, move), y.loss(leg, move));
+        is("row", x.row(g, move), y.row(g, move));
+        is("moved", x.moved(g, move, what & 1), y.moved(g, move, what & 1));
+        is("risk", x.risk(g, what), y.risk(g, what));
+        is("share", x.share(g, what & 1), y.share(g, what & 1));
+        is("order", x.order(leg), y.order(leg));
+        is("used", x.used(leg, what & 1), y.used(leg, what & 1));
         int number = of(0, 20);
-        due.is("ordered", x.ordered(number), y.ordered(number));
+        is("ordered", x.ordered(number), y.ordered(number));
     }
 
     private void thinking() {
@@ -173,31 +186,31 @@ public final class ModelTest {
             if (dice.nextInt(3) == 0) {
                 w = 100;
                 for (int g = 0; g < 5; g++) {
-                    due.is("ground", x.ground(g, 5, floor), y.ground(g, 5, floor));
+                    is("ground", x.ground(g, 5, floor), y.ground(g, 5, floor));
                 }
             }
-            due.is("see", x.see(w, margin), y.see(w, margin));
+            is("see", x.see(w, margin), y.see(w, margin));
         } else if (luck == 4) {
-            due.is("see", x.see(-1, luck), y.see(-1, luck));
+            is("see", x.see(-1, luck), y.see(-1, luck));
         } else if (luck == 5) {
             int v = wild();
-            due.is("plan", x.plan(-1, v), y.plan(-1, v));
+            is("plan", x.plan(-1, v), y.plan(-1, v));
         } else if (luck < 12) {
             int what = of(0, 3);
             int v = dice.nextBoolean() ? of(0, 8) : of(-120, 120);
-            due.is("plan", x.plan(what, v), y.plan(what, v));
+            is("plan", x.plan(what, v), y.plan(what, v));
         }
-        due.is("fits", x.fits(0), y.fits(0));
-        due.is("fits", x.fits(1), y.fits(1));
-        due.is("ends", x.ends(), y.ends());
+        is("fits", x.fits(0), y.fits(0));
+        is("fits", x.fits(1), y.fits(1));
+        is("ends", x.ends(), y.ends());
         if (luck == 12) {
-            due.is("image", x.image(), y.image());
+            is("image", x.image(), y.image());
         } else if (luck == 13 && dice.nextInt(4) == 0) {
-            due.is("undo", x.undo(), y.undo());
+            is("undo", x.undo(), y.undo());
         } else if (luck == 14) {
             int g = of(0, 4);
             int e = of(0, 5);
-            due.is("hedge", x.hedge(g, e), y.hedge(g, e));
+            is("hedge", x.hedge(g, e), y.hedge(g, e));
         }
     }
 
@@ -211,33 +224,33 @@ public final class ModelTest {
         long v = dice.nextBoolean() ? dice.nextLong() : dice.nextInt(500) - 250;
         switch (dice.nextInt(4)) {
             case 0:
-                due.is("tape", x.tape(t, sort, n), y.tape(t, sort, n));
+                is("tape", x.tape(t, sort, n), y.tape(t, sort, n));
                 break;
             case 1:
-                due.is("item", x.item(t, i, v), y.item(t, i, v));
+                is("item", x.item(t, i, v), y.item(t, i, v));
                 break;
             case 2:
-                due.is("shift", x.shift(t, i, o, j, n), y.shift(t, i, o, j, n));
+                is("shift", x.shift(t, i, o, j, n), y.shift(t, i, o, j, n));
                 break;
             default:
                 int g = of(0, 4);
                 for (int m = 0; m < dice.nextInt(9); m++) {
                     int w = (int) y.row(g, m);
-                    due.is("item", x.item(t, m + 1, w), y.item(t, m + 1, w));
+                    is("item", x.item(t, m + 1, w), y.item(t, m + 1, w));
                 }
-                due.is("judge", x.judge(g, t, 1), y.judge(g, t, 1));
-                due.is("judge", x.judge(g, t, i), y.judge(g, t, i));
+                is("judge", x.judge(g, t, 1), y.judge(g, t, 1));
+                is("judge", x.judge(g, t, i), y.judge(g, t, i));
                 int far = wild();
-                due.is("judge", x.judge(g, t, far), y.judge(g, t, far));
+                is("judge", x.judge(g, t, far), y.judge(g, t, far));
                 break;
         }
-        due.is("peek", x.peek(t, i), y.peek(t, i));
+        is("peek", x.peek(t, i), y.peek(t, i));
     }
 
     private void summing() {
         for (int what = -1; what <= 9; what++) {
-            due.is("told(" + what + ")", x.told(what), y.told(what));
-            due.is("count(" + what + ")", x.count(what), y.count(what));
+            is("told(" + what + ")", x.told(what), y.told(what));
+            is("count(" + what + ")", x.count(what), y.count(what));
         }
     }
 
@@ -268,10 +281,10 @@ public final class ModelTest {
             }
         }
         for (int i = 0; i < t.length(); i++) {
-            due.is("feed", x.feed(t.charAt(i)), y.feed(t.charAt(i)));
+            is("feed", x.feed(t.charAt(i)), y.feed(t.charAt(i)));
         }
-        due.is("feed", x.feed(-1), y.feed(-1));
-        due.is("read " + t, x.read(), y.read());
+        is("feed", x.feed(-1), y.feed(-1));
+        is("read " + t, x.read(), y.read());
     }
 
     private String clause() {
@@ -291,39 +304,44 @@ public final class ModelTest {
         }
     }
 
-    /** All that can be asked. */
+    /** Something of all that can be asked. */
     private void all() {
-        summing();
-        for (int leg = 0; leg < 24; leg++) {
-            for (int what = 0; what < 6; what++) {
-                due.is("legOf", x.legOf(leg, what), y.legOf(leg, what));
-            }
-            for (int m = -1; m < 8; m++) {
-                due.is("loss", x.loss(leg, m), y.loss(leg, m));
-                due.is("value", x.value(leg, m), y.value(leg, m));
-            }
+        for (int what = 0; what <= 8; what++) {
+            int k = what;
+            ask("told", () -> x.told(k), () -> y.told(k));
+            ask("count", () -> x.count(k), () -> y.count(k));
+            ask("order", () -> x.order(k), () -> y.order(k));
+            ask("used", () -> x.used(k, 0), () -> y.used(k, 0));
+            ask("used", () -> x.used(k, 1), () -> y.used(k, 1));
         }
-        for (int g = 0; g < 5; g++) {
-            for (int what = 0; what < 11; what++) {
-                due.is("risk", x.risk(g, what), y.risk(g, what));
-                due.is("groundOf", x.groundOf(g, what), y.groundOf(g, what));
-            }
-            for (int m = 0; m < 8; m++) {
-                due.is("row", x.row(g, m), y.row(g, m));
-            }
+        for (int i = 0; i < 24 * 15; i++) {
+            int leg = i / 15;
+            int what = i % 15;
+            ask("legOf", () -> x.legOf(leg, what), () -> y.legOf(leg, what));
+            ask("loss", () -> x.loss(leg, what), () -> y.loss(leg, what));
+            ask("value", () -> x.value(leg, what - 1), () -> y.value(leg, what - 1));
         }
-        for (int o = 0; o < 6; o++) {
-            due.is("order", x.order(o), y.order(o));
-            due.is("used", x.used(o, 0), y.used(o, 0));
-            due.is("used", x.used(o, 1), y.used(o, 1));
+        for (int i = 0; i < 5 * 11; i++) {
+            int g = i / 11;
+            int what = i % 11;
+            ask("risk", () -> x.risk(g, what), () -> y.risk(g, what));
+            ask("groundOf", () -> x.groundOf(g, what), () -> y.groundOf(g, what));
+            ask("row", () -> x.row(g, what), () -> y.row(g, what));
+            ask("peek", () -> x.peek(g, what), () -> y.peek(g, what));
         }
-        for (int number = -1; number < 722; number += dice.nextInt(60) + 1) {
-            due.is("ordered", x.ordered(number), y.ordered(number));
+        for (int n = -1; n < 722; n += dice.nextInt(20) + 1) {
+            int number = n;
+            ask("ordered", () -> x.ordered(number), () -> y.ordered(number));
         }
-        for (int t = 0; t < 6; t++) {
-            for (int i = 0; i < 13; i++) {
-                due.is("peek", x.peek(t, i), y.peek(t, i));
-            }
+    }
+
+    private interface Asked {
+        long answer();
+    }
+
+    private void ask(String call, Asked got, Asked want) {
+        if (isPicked()) {
+            is(call, got.answer(), want.answer());
         }
     }
 }

@@ -1188,9 +1188,8 @@ public final class PromiseTest {
         String[] heads = {"t", "t0", "t01", "t010", "t010.", "t010.1", "t010.100", "t010.100.", "t010.100.-",
             "m", "m.", "m.-", "m.-1", "m.12", "m.1.", "m.1.-", "m.1.2", "m.1.2.", "o", "o0", "o0123", "o01234",
             "o01234.", "p", "p0", "p0.", "p0.1;", "p0.1;m", ""};
-        LegHedge x = new LegHedge();
         for (String head : heads) {
-            is("read " + head, readAll(x, head), -10 - head.length());
+            is("read " + head, readAll(new LegHedge(), head), -10 - head.length());
         }
         String[] wrong = {"x", " ", ";", "T", "-", "t-", "tx", "t0x", "t01x", "t010x", "t010-", "t0100", "t010..",
             "t010.-", "t010.100x", "t010.1000", "t010.100.x", "t010.100.--", "t010.100.-x", "t010.100.1234",
@@ -1198,10 +1197,13 @@ public final class PromiseTest {
             "m.1.2.-", "m.1.2.1234", "m.1.2.3.", "o0x", "o012345", "o01234.-", "o01234.1234", "p00", "p0.-",
             "p0.1234", "p0.1;;", "p0.1;x", "p0.1;p0.1x", "p0.1t"};
         for (String text : wrong) {
+            LegHedge x = new LegHedge();
             is("read " + text, readAll(x, text), -10 - (text.length() - 1));
             is("read " + text + "0;p0.5", readAll(x, text + "0;p0.5"), -10 - (text.length() - 1));
             is("count(5)", x.count(5), 0);
+            is("groundOf(0, 0)", x.groundOf(0, 0), 100);
         }
+        LegHedge x = new LegHedge();
         is("groundOf(0, 0)", x.groundOf(0, 0), 100);
         is("nothing is done", readAll(x, "p0.7;m.1.1.1;x"), -10 - 13);
         is("groundOf(0, 0)", x.groundOf(0, 0), 100);
