@@ -17,6 +17,7 @@ public final class EdgeLegsTest {
         refusalsInTheirOrder();
         netting();
         twentyFour();
+        asOftenAsItIsUsed();
         finds();
         legsAsked();
         valuesOfMoney();
@@ -165,6 +166,15 @@ public final class EdgeLegsTest {
         is("value(23, 0)", x.value(23, 0), 90);
         is("loss(23, 0)", x.loss(23, 0), 10);
         is("a 25th", x.trade(0, FUTURE, 1, 0, 1), FULL);
+    }
+
+    private static void asOftenAsItIsUsed() {
+        edge.part("an object is used for 512 calls");
+        LegHedge x = new LegHedge();
+        for (int i = 1; i < 512; i++) {
+            is("trade", x.trade(4, CALL, 5, 999, -1000000 / 512), -(1000000 / 512) * i);
+        }
+        is("the 512th", x.told(0), 511 * (1000000 / 512));
     }
 
     private static void finds() {

@@ -104,6 +104,10 @@ public final class EdgeMarginTest {
         is("the last two", charged(0, 0, 0, 0, 2, -1), 10);
         is("all six", charged(1, -1, 1, -1, 1, -1), 30);
         is("what is left goes on", charged(1, -3, 0, 1, 1), 10 + 20 + 30);
+        is("what is left of one above 0 goes on", charged(-1, 2, 0, -2), 10 + 20);
+        is("what is left of one below 0 goes on", charged(1, -2, 0, 2), 10 + 20);
+        is("what is left of the first goes on", charged(2, -1, 0, -2), 10 + 30);
+        is("what is left of the first goes on", charged(-2, 1, 0, 2), 10 + 30);
         LegHedge x = new LegHedge();
         x.trade(0, FUTURE, 0, 0, 5);
         x.trade(1, FUTURE, 1, 0, -5);
@@ -618,6 +622,15 @@ public final class EdgeMarginTest {
         x.move(-1, 0, 100);
         is("SCANS are 10", x.share(0, 0), 1);
         is("SCANS are 10", x.share(1, 0), 0);
+        x.trade(1, FUTURE, 0, 0, 3);
+        is("10 of 13", x.share(0, 0), 10);
+        is("10 of 13", x.share(0, 1), 13);
+        x.trade(0, FUTURE, 0, 0, -10);
+        x.trade(1, FUTURE, 0, 0, -2);
+        is("1 of 1", x.share(1, 0), 1);
+        is("1 of 1", x.share(1, 1), 1);
+        is("0 of 1", x.share(0, 0), 0);
+        is("0 of 1", x.share(0, 1), 1);
         is("of a ground that there isn't", x.share(5, 0), NO);
     }
 }

@@ -140,7 +140,10 @@ public final class EdgeOverTest {
         is("214748365 times 5 times 2", x.trade(0, FUTURE, 0, 0, 1), OVER);
         is("others less than it", x.trade(0, FUTURE, 1, 0, -MILLION), -MILLION);
         is("it is OVER by itself", x.trade(0, FUTURE, 0, 0, 1), OVER);
-        is("DELTA of the GROUND", x.risk(0, 4), 2147483640 - 10 * MILLION);
+        is("less by the EXPIRY", x.trade(0, CALL, 0, 0, -10), -10);
+        is("DELTA by EXPIRY", x.risk(0, 5), 2147483540);
+        is("it is OVER by itself", x.trade(0, FUTURE, 0, 0, 1), OVER);
+        is("DELTA of the GROUND", x.risk(0, 4), 2147483540 - 10 * MILLION);
     }
 
     private static void deltaByExpiry() {

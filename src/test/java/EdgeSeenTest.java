@@ -211,8 +211,11 @@ public final class EdgeSeenTest {
         is("2147483646 by FLOOR 9", x.fits(0), 1);
         x.see(-1, 0);
         x.see(201, (int) (239802340L * 9));
-        is("2158221060 by FLOOR 9 is OVER", x.fits(0), 10);
+        is("2158221060 by FLOOR 9 is none", x.fits(0), 10);
         is("one below 0 isn't SEEN", x.count(3), 0);
+        x.see(201, 0);
+        is("0 by FLOOR 0 alone, not by 9, which is OVER", x.fits(0), 1);
+        x.see(-1, 0);
         x.see(201, (int) (239802340L * 8));
         is("by FLOOR 8", x.fits(1), 8);
         x.trade(1, FUTURE, 0, 0, 1);
@@ -424,6 +427,21 @@ public final class EdgeSeenTest {
         is("count(4)", z.count(4), 2);
         z.trade(0, FUTURE, 0, 0, 5);
         is("LEG 1 is another one", z.ends(), 80);
+        LegHedge w = fourLegs();
+        w.move(-19, 0, 100);
+        w.plan(LEG, 1);
+        for (int leg = 3; leg >= 1; leg--) {
+            w.trade(leg, FUTURE, 0, 0, -(1 << leg));
+        }
+        is("LEG 1 isn't there any more, MOVE 1 isn't meant", w.ends(), 19);
+        w.still(0);
+        is("nor MOVE 0", w.ends(), 19);
+        w.plan(-1, 0);
+        w.move(-8, 0, 100);
+        w.plan(MOVE, 1);
+        is("LEG 1 isn't meant by a MOVE", w.ends(), 19);
+        w.trade(1, FUTURE, 0, 0, 1);
+        is("LEG 1 isn't meant by a MOVE", w.ends(), 38);
     }
 
     private static void planOfMoves() {
@@ -455,6 +473,9 @@ public final class EdgeSeenTest {
         y.move(-20, 0, 100);
         y.plan(MOVE, 1);
         is("20 goes", y.ends(), 10);
+        y.trade(0, FUTURE, 0, 0, -2);
+        is("one that goes is worth nothing below 0 either", y.ends(), 0);
+        y.trade(0, FUTURE, 0, 0, 2);
         y.still(0);
         is("MOVE 1 isn't there any more", y.ends(), 20);
         y.plan(MOVE, 0);
@@ -484,6 +505,16 @@ public final class EdgeSeenTest {
         x.plan(PRICES, 1);
         x.plan(LEG, 0);
         is("without the LEG nothing is", x.ends(), 0);
+        LegHedge z = new LegHedge();
+        z.ground(0, 0, 98);
+        z.ground(0, 2, 1000000);
+        z.ground(0, 3, 99);
+        z.trade(0, FUTURE, 0, 0, 22);
+        is("22000000 times 97", z.move(-99, 0, 1), 0);
+        z.plan(PRICES, 1);
+        is("22000000 times 98 is OVER", z.ends(), NO);
+        z.plan(MOVE, 0);
+        is("by a MOVE that is none nothing is", z.ends(), 0);
         edge.refused("ends()", Look.rich().ends(), y -> y.ends());
     }
 }

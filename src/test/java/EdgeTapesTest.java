@@ -269,11 +269,18 @@ public final class EdgeTapesTest {
         x.trade(0, 2, 0, 0, 1);
         x.trade(4, 4, 0, 0, -1);
         is("none of it is there", x.count(6), 6);
+        x.trade(0, 1, 5, 0, -1);
+        is("the last LEG goes", x.count(6), 5);
         LegHedge y = new LegHedge();
         for (int i = 0; i < 24; i++) {
             y.trade(0, 1, i % 6, i / 6, 1);
             is("24 pairs", y.count(6), i + 1);
         }
+        LegHedge z = new LegHedge();
+        z.trade(0, 1, 3, 50, 1);
+        z.trade(1, 1, 3, 50, 1);
+        z.trade(0, 2, 3, 50, 1);
+        is("three LEGS of one pair", z.count(6), 1);
     }
 
     private static void tapesTaken() {

@@ -270,6 +270,10 @@ public final class EdgeTextTest {
         is("to 0 and anew", Look.read(y, "t000.0.1;t100.0.1;t000.0.-1;t000.0.7"), 4);
         is("behind the other", y.find(0, 0, 0, 0), 1);
         is("all refused", Look.read(y, "p5.1;p6.1"), 0);
+        is("nothing of the one before is read", Look.read(y, "p5"), -12);
+        is("nothing of the one before is read", Look.read(y, "p"), -11);
+        is("nothing of the one before is read", Look.read(y, "p5.1;"), -15);
+        is("nothing of the one before is read", Look.read(y, "p0.6"), 1);
         is("asked again, THE TEXT is empty", y.read(), -10);
     }
 
