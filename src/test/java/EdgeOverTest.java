@@ -19,6 +19,7 @@ public final class EdgeOverTest {
         deltaByExpiry();
         deltaOfAGround();
         tenTimesScan();
+        tenTimesScanWithoutDelta();
         rowsAndScansBeyondTenfold();
         shortTimesFloor();
         floorsTogether();
@@ -219,6 +220,36 @@ public final class EdgeOverTest {
         is("SCANS", x.told(1), 214748364);
         is("SCAN of another GROUND", x.trade(1, FUTURE, 0, 0, MILLION), MILLION);
         is("SCANS", x.told(1), 218748364);
+    }
+
+    /** PER is 0 if DELTA is 0; what is told of 10 times SCAN has no such if. */
+    private static void tenTimesScanWithoutDelta() {
+        edge.part("OVER: 10 times SCAN of a GROUND that has no DELTA");
+        LegHedge x = new LegHedge();
+        x.ground(0, 1, 0);
+        x.ground(0, 3, 99);
+        is("980 up", x.move(99, 0, 100), 0);
+        is("price by it", x.moved(0, 0, 0), 1080);
+        for (int e = 0; e < 6; e++) {
+            is("100 each are lost", x.trade(0, CALL, e, 980, -214748), -214748);
+        }
+        for (int e = 0; e < 4; e++) {
+            is("101 each are lost", x.trade(0, CALL, e, 979, -212622), -212622);
+        }
+        is("81 each are lost", x.trade(0, CALL, 0, 999, -3), -3);
+        is("SCAN", x.risk(0, 0), 214748331);
+        is("DELTA", x.risk(0, 4), 0);
+        is("PER is 0", x.risk(0, 3), 0);
+        is("10 times SCAN is 2147484120", x.trade(0, CALL, 0, 999, -1), OVER);
+        is("would", x.would(0, CALL, 0, 999, -1), NO);
+        is("half of it on another GROUND", x.trade(1, FUTURE, 0, 0, -1), -1);
+        is("QUANTITY as it was", x.legOf(10, 4), -3);
+        is("SCAN", x.risk(0, 0), 214748331);
+        is("with a DELTA, too", x.trade(0, FUTURE, 0, 0, -1), OVER);
+        is("33 more", x.trade(0, CALL, 0, 998, -1), OVER);
+        is("less of it, and PER", x.trade(0, CALL, 0, 999, 3), 0);
+        is("SCAN", x.risk(0, 0), 214748088);
+        is("PER is 0", x.risk(0, 3), 0);
     }
 
     private static void rowsAndScansBeyondTenfold() {

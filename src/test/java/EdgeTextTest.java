@@ -165,6 +165,11 @@ public final class EdgeTextTest {
         is("ends too early", Look.read(x, fits.substring(0, 84) + "m.-99.-9.100;p0."), -110);
         is("the last doesn't go on so", Look.read(x, fits.substring(0, 99) + ";"), -109);
         is("the last doesn't go on so", Look.read(x, fits.substring(0, 99) + "x"), -109);
+        String[] early = {"t010.1.-1;p0.12;", "t010.1.-1;p0.1;t", "t010.1.-1;p0.1;o", "p0.123;t010.1.-1"};
+        int[] asked = {-110, -110, -110, 8};
+        for (int i = 0; i < early.length; i++) {
+            is("100 signs, at the end " + early[i], Look.read(x, fits.substring(0, 84) + early[i]), asked[i]);
+        }
         LegHedge y = fullText();
         is("a ; behind ten CLAUSES", y.read(), -10 - (9 * 5 + 12));
         is("count(5)", y.count(5), 0);
